@@ -422,6 +422,7 @@ public final class HazelGift {
             return shared;
         }
 
+        // Apart from sharedTraits, since the search asks this most often and can stop at the first trait.
         private boolean isWon(int line) {
             if (line < 0 || line >= LINE_CELLS.length) {
                 return false;

@@ -11,6 +11,9 @@ public final class PromisesTest {
     // All sixteen pieces, and nobody has won.
     private static final String DRAWN = "g5;p2;g6;p4;g15;p0;g9;p11;g3;p1;g8;p3;g11;p15;g7;p8;g4;p7;g1;p12;g14;p13;g13;p6;"
         + "g10;p14;g2;p9;g0;p5;g12;p10";
+    // Fifteen pieces, and nobody wins; the piece 0 and the cell 0 are left.
+    private static final String LEFT_ZERO = "g9;p8;g10;p14;g3;p10;g5;p1;g15;p11;g4;p9;g7;p5;g11;p2;g8;p13;g13;p6;g2;"
+        + "p7;g1;p12;g6;p4;g14;p3;g12;p15";
     // Player 0 wins with the sixteenth piece.
     private static final String WON_LAST = "g0;p11;g5;p14;g14;p13;g7;p6;g1;p15;g12;p12;g4;p4;g10;p3;g15;p7;g2;p5;g6;p0;"
         + "g11;p8;g13;p2;g8;p9;g3;p1;g9;p10";
@@ -614,6 +617,8 @@ public final class PromisesTest {
         due("winningCell(8), the first of two", 12, () -> two.winningCell(8));
         due("winningCell(9)", 13, () -> two.winningCell(9));
         due("winningCell(15)", -1, () -> two.winningCell(15));
+        due("winningCell(7) on the cell 0", 0, () -> played("g0;p1;g1;p2;g3;p3").winningCell(7));
+        due("winningCell(15) on the cell 15", 15, () -> played("g7;p12;g13;p13;g5;p14").winningCell(15));
         HazelGift over = played(ROW);
         due("winningCell(8) after a win", -1, () -> over.winningCell(8));
         due("winningCell(4), given, on a square", 5, () -> squares("g15;p0;g14;p1;g12;p4").winningCell(4));
@@ -663,6 +668,8 @@ public final class PromisesTest {
         {"g3;p1;g11;p10;g5;p2;g13;p11;g10;p3;g7;p12;g0;p13;g14;p0;g4;p15;g15;p7;g9;p6;g8;p14", 0, 1},
         {DRAWN.substring(0, DRAWN.lastIndexOf(';')), 0, 10},
         {DRAWN.substring(0, DRAWN.lastIndexOf(";g")), 0, 12},
+        {LEFT_ZERO, 0, 0},
+        {LEFT_ZERO + ";g0", 0, 0},
         {WON_LAST.substring(0, WON_LAST.lastIndexOf(';')), 1, 10},
         {WON_LAST.substring(0, WON_LAST.lastIndexOf(";g")), -1, 9},
         {"g6;p0;g10;p15;g4;p14;g12;p2;g15;p10;g0;p4;g9;p5;g3;p1;g8;p12;g11;p8;g5;p11;g14;p9;g1", 0, 6, 0, 13},
@@ -680,6 +687,7 @@ public final class PromisesTest {
     private static void searched(String call, int column, Ask ask) {
         for (Object[] end : ENDS) {
             String moves = (String) end[0];
+            due(call + " at once after " + moves, end[column], () -> ask.of(played(moves)));
             asked(call + " after " + moves, end[column], played(moves), ask);
             if (end.length > 3) {
                 asked(call + " with SQUARES after " + moves, end[column + 2], squares(moves), ask);
