@@ -51,8 +51,8 @@ public final class FaceTest {
 
     // What LANGUAGE.md leaves out and a hand might slip in.
     private static final String[] LEFT_OUT = {
-        "import ", "package ", "->", "::", "catch", "finally", "synchronized", "assert ", "System.", "Exact(", "double ",
-        "static {", "instanceof", "Object", "hashCode", "toString", "\" +", "+ \"",
+        "import ", "package ", "->", "::", "catch", "finally", "synchronized", "assert ", "System.", "Exact(",
+        "double ", "static {", "instanceof", "Object", "hashCode", "toString", "\" +", "+ \"",
     };
 
     private static int wrong = 0;

@@ -1,115 +1,5 @@
 /** The promises one by one: ordinary inputs, the edges that the document names, and wrong inputs. */
-public final class PromisesTest {
-    private static final String INDEX = "IndexOutOfBoundsException";
-    private static final String STATE = "IllegalStateException";
-    private static final String ARGUMENT = "IllegalArgumentException";
-
-    // Twelve pieces on the first three rows, and nobody has won; player 0 gives.
-    private static final String TWELVE = "g0;p0;g15;p1;g1;p2;g14;p3;g13;p4;g2;p5;g12;p6;g3;p7;g4;p8;g11;p9;g5;p10;g10;p11";
-    // Twelve pieces, from where nobody wins with best moves.
-    private static final String EVEN = "g1;p15;g14;p3;g3;p9;g5;p8;g0;p7;g15;p11;g6;p0;g10;p10;g8;p1;g13;p5;g9;p4;g7;p2";
-    // All sixteen pieces, and nobody has won.
-    private static final String DRAWN = "g5;p2;g6;p4;g15;p0;g9;p11;g3;p1;g8;p3;g11;p15;g7;p8;g4;p7;g1;p12;g14;p13;g13;p6;"
-        + "g10;p14;g2;p9;g0;p5;g12;p10";
-    // Fifteen pieces, and nobody wins; the piece 0 and the cell 0 are left.
-    private static final String LEFT_ZERO = "g9;p8;g10;p14;g3;p10;g5;p1;g15;p11;g4;p9;g7;p5;g11;p2;g8;p13;g13;p6;g2;"
-        + "p7;g1;p12;g6;p4;g14;p3;g12;p15";
-    // Player 0 wins with the sixteenth piece.
-    private static final String WON_LAST = "g0;p11;g5;p14;g14;p13;g7;p6;g1;p15;g12;p12;g4;p4;g10;p3;g15;p7;g2;p5;g6;p0;"
-        + "g11;p8;g13;p2;g8;p9;g3;p1;g9;p10";
-    // Player 0 wins two lines with the tenth piece.
-    private static final String TWO_LINES = "g0;p1;g15;p7;g6;p12;g11;p15;g4;p2;g13;p8;g9;p5;g7;p11;g8;p0;g2;p3";
-    // Player 0 wins with the fourth piece.
-    private static final String ROW = "g0;p0;g1;p1;g3;p2;g7;p3";
-    // The same by player 1, with the fifth piece.
-    private static final String LATER_ROW = "g0;p0;g1;p1;g8;p15;g3;p2;g7;p3";
-    // A square that is no line with the rule LINES.
-    private static final String SQUARE = "g15;p0;g14;p1;g12;p4;g8;p5";
-
-    private static int wrong = 0;
-    private static int promise = 0;
-
-    private interface Call {
-        Object answer();
-    }
-
-    private static void due(String call, Object want, Call got) {
-        String answer;
-        try {
-            answer = String.valueOf(got.answer());
-        } catch (RuntimeException e) {
-            answer = "throws." + e.getClass().getSimpleName();
-        }
-        if (!answer.equals(String.valueOf(want))) {
-            wrong++;
-            System.out.println("promise " + promise + ": " + call + " answered " + answer + ", due is " + want);
-        }
-    }
-
-    private static void refused(String call, String exception, Call got) {
-        due(call, "throws." + exception, got);
-    }
-
-    private static void play(HazelGift x, String moves) {
-        for (String move : moves.split(";")) {
-            int number = Integer.parseInt(move.substring(1));
-            if (move.charAt(0) == 'g') {
-                x.give(number);
-            } else {
-                x.place(number);
-            }
-        }
-    }
-
-    private static HazelGift played(String moves) {
-        HazelGift x = new HazelGift();
-        play(x, moves);
-        return x;
-    }
-
-    private static HazelGift squares(String moves) {
-        HazelGift x = new HazelGift();
-        x.restart(HazelGift.SQUARES);
-        play(x, moves);
-        return x;
-    }
-
-    private static void write(HazelGift x, String text) {
-        x.clearText();
-        for (char c : text.toCharArray()) {
-            x.type(c);
-        }
-    }
-
-    private static HazelGift typed(String text) {
-        HazelGift x = new HazelGift();
-        write(x, text);
-        return x;
-    }
-
-    /** Everything that can be asked for, in one text; two objects in the same state tell the same. */
-    private static String picture(HazelGift x) {
-        StringBuilder s = new StringBuilder();
-        s.append(x.playerToMove()).append(' ').append(x.gift()).append(' ').append(x.placed()).append(' ');
-        s.append(x.winner()).append(x.isOver()).append(x.lines()).append(' ').append(x.wonLines()).append(' ');
-        s.append(x.winsOf(0)).append(' ').append(x.winsOf(1)).append(' ').append(x.rule()).append(' ');
-        s.append(x.safeByTrying()).append(' ').append(x.safeByLines()).append(' ').append(x.textError());
-        for (int i = 0; i < 16; i++) {
-            s.append(' ').append(x.pieceOn(i)).append(' ').append(x.cellOf(i)).append(' ').append(x.winningCell(i));
-        }
-        for (int line = 0; line < x.lines(); line++) {
-            s.append(' ').append(x.piecesOn(line)).append(' ').append(x.sharedOn(line));
-        }
-        return s.append(" recorded ").append(x.recordedStates()).toString();
-    }
-
-    /** A call that throws changes nothing. */
-    private static void refusedKeeping(HazelGift x, String call, String exception, Call got) {
-        String before = picture(x);
-        refused(call, exception, got);
-        due("the state after " + call, before, () -> picture(x));
-    }
-
+public final class PromisesTest extends Checks {
     private static void newObject() {
         HazelGift x = new HazelGift();
         due("placed()", 0, () -> x.placed());
@@ -626,10 +516,6 @@ public final class PromisesTest {
         due("winningCell(3) on a full board", -1, () -> played(DRAWN).winningCell(3));
     }
 
-    private interface Ask {
-        int of(HazelGift x);
-    }
-
     private static void safe(String call, Ask safe) {
         due(call, 65535, () -> safe.of(new HazelGift()));
         due(call + " with a gift", 65533, () -> safe.of(played("g1")));
@@ -740,18 +626,15 @@ public final class PromisesTest {
             () -> safe("safeByLines()", HazelGift::safeByLines), () -> searched("outcome()", 1, HazelGift::outcome),
             () -> searched("bestMove()", 2, HazelGift::bestMove), PromisesTest::rule, PromisesTest::recordedStates,
         };
-        for (Runnable test : promises) {
-            promise++;
+        for (int i = 0; i < promises.length; i++) {
+            looked = "promise " + (i + 1);
             try {
-                test.run();
+                promises[i].run();
             } catch (RuntimeException e) {
                 wrong++;
-                System.out.println("promise " + promise + ": the test itself was stopped by " + e);
+                System.out.println(looked + ": the test itself was stopped by " + e);
             }
         }
-        System.out.println(wrong == 0 ? "all answers are as due" : wrong + " answers are not as due");
-        if (wrong != 0) {
-            System.exit(1);
-        }
+        end();
     }
 }
