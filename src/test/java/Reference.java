@@ -14,6 +14,9 @@ final class Reference {
 
     /** One state; a move makes a new one. */
     static final class State {
+        private static final List<int[]> WITHOUT_SQUARES = lines(false);
+        private static final List<int[]> WITH_SQUARES = lines(true);
+
         final int[] pieceOn = new int[16];
         int gift = -1;
         int giver = 0;
@@ -62,6 +65,10 @@ final class Reference {
         }
 
         List<int[]> lines() {
+            return rule == 1 ? WITH_SQUARES : WITHOUT_SQUARES;
+        }
+
+        private static List<int[]> lines(boolean squares) {
             List<int[]> all = new ArrayList<>();
             for (int r = 0; r < 4; r++) {
                 all.add(new int[] {at(r, 0), at(r, 1), at(r, 2), at(r, 3)});
@@ -71,7 +78,7 @@ final class Reference {
             }
             all.add(new int[] {0, 5, 10, 15});
             all.add(new int[] {3, 6, 9, 12});
-            if (rule == 1) {
+            if (squares) {
                 for (int r = 0; r < 3; r++) {
                     for (int c = 0; c < 3; c++) {
                         all.add(new int[] {at(r, c), at(r, c + 1), at(r + 1, c), at(r + 1, c + 1)});
